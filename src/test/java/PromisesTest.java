@@ -313,7 +313,7 @@ public final class PromisesTest {
         x = made("", filler);
         Due.same("plain of more than 255", x.way(1) * 1000 + x.way(2), 1016);
         x = made("0123456789ABCDEF".repeat(36) + "stuvwxyzabcdefgh", "abcdefgh");
-        Due.same("a copy of the base's last block but one", row(x), "1 2 72 0 8");
+        Due.same("a copy from beyond 511", row(x), "1 2 72 0 8");
     }
 
     // Promise 8
