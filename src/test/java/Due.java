@@ -26,6 +26,23 @@ final class Due {
         }
     }
 
+    /** One sentence's test: told by itself, so that one that fails or looks at nothing is seen. */
+    static void sentence(String sentence, Runnable test) {
+        int wrongBefore = wrong;
+        int lookedBefore = looked;
+        try {
+            test.run();
+        } catch (RuntimeException e) {
+            wrong++;
+            System.out.println("thrown: " + e);
+        }
+        if (looked == lookedBefore) {
+            wrong++;
+            System.out.println("nothing was looked at");
+        }
+        System.out.println((wrong == wrongBefore ? "holds: " : "BROKEN: ") + sentence);
+    }
+
     static void end() {
         System.out.println(looked + " answers looked at, " + wrong + " not as due");
         if (wrong != 0 || looked == 0) {
