@@ -8,8 +8,7 @@ public final class SentencesTest {
     private static final int MAX = Integer.MAX_VALUE;
     private static final String REFUSED = "IllegalStateException";
 
-    /** 600 bytes whose blocks are all unlike, and unlike to any eight that begin in no block. */
-    private static final String MARKED = marked();
+    private static final String MARKED = Ways.marked();
 
     public static void main(String[] args) {
         Due.sentence("Terms: BASE and TARGET have at most 600 bytes each.",
@@ -711,14 +710,6 @@ public final class SentencesTest {
         StringBuilder all = new StringBuilder();
         for (int i = 0; i < 256; i++) {
             all.append((char) i);
-        }
-        return all.toString();
-    }
-
-    private static String marked() {
-        StringBuilder all = new StringBuilder();
-        for (int i = 0; i < 600; i++) {
-            all.append((char) (i % 8 == 0 ? 128 + i / 8 : 240 + i % 8));
         }
         return all.toString();
     }

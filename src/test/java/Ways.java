@@ -65,6 +65,11 @@ final class Ways {
         return counted().count(what);
     }
 
+    /** How many calls are left whose answers are promised. */
+    int left() {
+        return MOST_CALLS - calls;
+    }
+
     private PieceWays counted() {
         calls++;
         if (calls == MOST_CALLS + 1) {
@@ -135,6 +140,15 @@ final class Ways {
         StringBuilder all = new StringBuilder();
         for (char c : resultText().toCharArray()) {
             all.append(String.format("%02x", (int) c));
+        }
+        return all.toString();
+    }
+
+    /** 600 bytes of which no eight are alike to another eight. */
+    static String marked() {
+        StringBuilder all = new StringBuilder();
+        for (int i = 0; i < 600; i++) {
+            all.append((char) (i % 8 == 0 ? 128 + i / 8 : 240 + i % 8));
         }
         return all.toString();
     }
